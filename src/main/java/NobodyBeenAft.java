@@ -1243,7 +1243,8 @@ public final class NobodyBeenAft {
 
     /** THE RULE, in the order in which it is worked out: numbers, and signs put below 0. */
     private static final class Rule {
-        static final int TURN = '~';
+        // above 255, so that no sign of a text is taken for it
+        static final int TURN = 256;
         final int[] code = new int[RULE_SIGNS];
         int size;
         final int[] values = new int[RULE_SIGNS];
@@ -1436,8 +1437,8 @@ public final class NobodyBeenAft {
         int now;
         int lane = FIRST_LANE;
         int hits;
+        int lastGiven = NONE;
         int orders;
-        final int[] given = new int[MAX_ORDERS];
         final int[] due = new int[MAX_ORDERS];
         final int[] helm = new int[MAX_ORDERS];
         final int[] food = new int[MAX_MESSES];
@@ -1447,22 +1448,16 @@ public final class NobodyBeenAft {
             now = other.now;
             lane = other.lane;
             hits = other.hits;
+            lastGiven = other.lastGiven;
             orders = other.orders;
-            System.arraycopy(other.given, 0, given, 0, MAX_ORDERS);
             System.arraycopy(other.due, 0, due, 0, MAX_ORDERS);
             System.arraycopy(other.helm, 0, helm, 0, MAX_ORDERS);
             System.arraycopy(other.food, 0, food, 0, MAX_MESSES);
             System.arraycopy(other.hungry, 0, hungry, 0, MAX_MESSES);
         }
 
-        /** An order given now is never done now: it is found among those under way. */
         boolean gaveNow() {
-            for (int i = 0; i < orders; i++) {
-                if (given[i] == now) {
-                    return true;
-                }
-            }
-            return false;
+            return lastGiven == now;
         }
 
         void addOrder(int late, int v) {
@@ -1471,15 +1466,14 @@ public final class NobodyBeenAft {
             }
             int at = orders;
             while (at > 0 && due[at - 1] > now + late) {
-                given[at] = given[at - 1];
                 due[at] = due[at - 1];
                 helm[at] = helm[at - 1];
                 at--;
             }
-            given[at] = now;
             due[at] = now + late;
             helm[at] = v;
             orders++;
+            lastGiven = now;
         }
 
         void doDueOrders() {
@@ -1489,7 +1483,6 @@ public final class NobodyBeenAft {
                 done++;
             }
             orders -= done;
-            System.arraycopy(given, done, given, 0, orders);
             System.arraycopy(due, done, due, 0, orders);
             System.arraycopy(helm, done, helm, 0, orders);
         }

@@ -16,9 +16,12 @@ public final class ModelTest {
     private final Model m = new Model();
     private final StringBuilder log = new StringBuilder();
     private int calls = 0;
+    /** Whither most orders go, so that some runs come to the edge of the sea. */
+    private final int drift;
 
     private ModelTest(long seed) {
         random = new Random(seed);
+        drift = draw(4) > 1 ? 0 : draw(2) * 2 - 1;
     }
 
     public static void main(String[] args) {
@@ -136,7 +139,7 @@ public final class ModelTest {
         for (int i = draw(4) == 0 ? draw(62) : draw(12); i > 0; i--) {
             switch (draw(4)) {
                 case 0:
-                    b.append("<=>".charAt(draw(3)));
+                    b.append("<=>".charAt(drift != 0 && draw(3) > 0 ? drift + 1 : draw(3)));
                     break;
                 case 1:
                     b.append('p').append(draw(draw(3) == 0 ? 10 : 2));
@@ -154,7 +157,7 @@ public final class ModelTest {
         StringBuilder b = new StringBuilder(text);
         for (int i = draw(6) == 0 ? 1 + draw(2) : 0; i > 0; i--) {
             int at = draw(b.length() + 1);
-            char c = draw(20) == 0 ? (char) draw(256) : ODD.charAt(draw(ODD.length()));
+            char c = draw(5) == 0 ? (char) draw(256) : ODD.charAt(draw(ODD.length()));
             switch (draw(3)) {
                 case 0:
                     b.insert(at, c);
@@ -298,7 +301,7 @@ public final class ModelTest {
                 return new int[] {draw(0, 3), draw(0, 8), draw(2) == 0 ? random.nextInt() : draw(300) - 20,
                     draw(4) == 0 ? random.nextInt() : draw(9) - 4};
             case "order":
-                return new int[] {draw(-1, 1)};
+                return new int[] {drift != 0 && draw(3) > 0 ? drift : draw(-1, 1)};
             case "pass":
                 return new int[] {draw(0, Math.max(0, m.eats.length - 1)),
                     draw(3) == 0 ? draw(1, 99) : draw(1, 9), draw(0, 1)};

@@ -46,6 +46,7 @@ public final class PromiseTest {
         p5();
         p6();
         p7();
+        signs();
         p8to10();
         p11();
         p12();
@@ -103,10 +104,11 @@ public final class PromiseTest {
         String[] wrong = {"", "x", "1", "0", "01", "41", "99", "123", "1x", "5,", "5,x", "5,5", "5,12", "5,3,3",
             "5,3,2", "5,3,,", "5,3**", "5*", "9,0,1,2,3*,4,5,", "40,1,2,3,4,5,6,7,8,9,10,", "5,4;", "5,123",
             "40,10*,11*,12*,13*,14*,15*,16*,17*,18*,19*,", "40,10*,11*,12*,13*,14*,15*,16*,17*,18*,19*,20",
+            "012", "020,3",
             "40,10*,11*,12*,13*,14*,15*,16*,17*,18*,19**xxxxxx", "20,1*,2*,3*,4*,5*,6*,7*,8*,9*,19 xxxxxxxxxxxx"};
         int[] due = {0, 0, 0, 0, 1, 1, 1, 2, 0, 2, 2, 2, 3, 4,
             4, 4, 4, 1, 15, 23, 3, 3,
-            42, 42, 42, 32};
+            42, 42, 1, 2, 42, 32};
         for (int i = 0; i < wrong.length; i++) {
             Check.is("4 " + wrong[i], Check.ship(x, wrong[i]), -1 - due[i]);
             Check.is("4 read all the same " + i, x.count(12), 0);
@@ -131,12 +133,14 @@ public final class PromiseTest {
         Check.is("5 two", Check.rocks(x, "5,0;999,8"), 2);
         Check.is("5 again one", Check.rocks(x, "005,0"), 1);
         Check.is("5 all", x.count(3), 3);
+        Check.is("5 the text is read", x.count(12), 0);
         Check.is("5 noughts ahead", x.rock(2, 0), 5);
         String[] wrong = {"x", "5", "5,", "5,9", "5,3;", "5,3;x", "0,3", "000,3", "00", "0x", "1234,5", "5;3", "5,3,4",
             "5,33", "7,1;0,2", ";"};
         int[] due = {0, 1, 2, 2, 4, 4, 0, 2, 1, 0, 3, 1, 3, 3, 4, 0};
         for (int i = 0; i < wrong.length; i++) {
             Check.is("5 " + wrong[i], Check.rocks(x, wrong[i]), -1 - due[i]);
+            Check.is("5 read all the same " + i, x.count(12), 0);
         }
         Check.is("5 nothing of it comes", x.count(3), 3);
         Check.is("5 no room for the last", Check.rocks(x, "1,1;".repeat(13) + "2,2"), -1 - 52);
@@ -144,6 +148,10 @@ public final class PromiseTest {
         Check.is("5 room for 13", Check.rocks(x, "1,1;".repeat(12) + "2,2"), 13);
         Check.is("5 none for one", Check.rocks(x, "1,1"), -1);
         Check.is("5 nothing where there is no room", Check.rocks(x, ""), 0);
+        NobodyBeenAft all = make();
+        Check.is("5 seventeen at once", Check.rocks(all, "1,1;".repeat(16) + "1,1"), -1 - 64);
+        Check.is("5 sixteen and ;", Check.rocks(all, "1,1;".repeat(16)), -1 - 64);
+        Check.is("5 sixteen at once", Check.rocks(all, "1,1;".repeat(15) + "1,1"), 16);
         NobodyBeenAft y = make();
         String most = "100,1;".repeat(12) + "9,10";
         Check.is("5 76 and a fault ahead", Check.rocks(y, most + ";"), -1 - 75);
@@ -184,6 +192,7 @@ public final class PromiseTest {
         int[] due = {0, 1, 2, 2, 4, 4, 2, 3, 1, 0};
         for (int i = 0; i < wrong.length; i++) {
             Check.is("6 " + wrong[i], Check.messes(x, wrong[i]), -1 - due[i]);
+            Check.is("6 read all the same " + i, x.count(12), 0);
         }
         Check.is("6 no room", Check.messes(x, "1*1;1*1;1*1;1*1;1*1;1*1"), -1 - 20);
         Check.is("6 nothing of it comes", x.count(4), 3);
@@ -194,7 +203,10 @@ public final class PromiseTest {
         Check.is("6 40 signs", Check.messes(y, full + ";"), -1 - 39);
         Check.is("6 40 signs, a fault there", Check.messes(y, full + "x"), -1 - 39);
         Check.is("6 40 signs, a fault ahead", Check.messes(y, "10*1;".repeat(7) + "10*xx"), -1 - 38);
+        Check.is("6 nine at once", Check.messes(y, "1*1;".repeat(8) + "1*1"), -1 - 32);
+        Check.is("6 eight and ;", Check.messes(y, "1*1;".repeat(8)), -1 - 32);
         Check.is("6 39 signs", Check.messes(y, full), 8);
+        Check.is("6 the text is read", y.count(12), 0);
         NobodyBeenAft z = make();
         Check.messes(z, "1*9");
         z.steps(3);
@@ -209,14 +221,19 @@ public final class PromiseTest {
         return n == 0 ? x.delay() : n;
     }
 
+    private static int minus(int v, int below) {
+        return below < 0 ? v - 1 : v;
+    }
+
     private static void p7() {
         Check.is("7 none", delay(""), 3);
         String[] good = {"1", "012", "999", "l/8", "p", "x+x", "n+4", "-1", "--7", "1--1", "2*-3+9", "2+3*2", "9-3-2",
             "12/2/3", "7/0+4", "-7/2+9", "(1+2)*3", "((((5))))", "1<2", "2<1", "5>2+1", "3=3", "3=2+2", "(1<2)+(2<3)",
             "(1<2)<3", "4-3>0", "999*999*999*999", "2*(3<4)+1", "0-(-5)", "l-p-x-9", "x=1", "-(1-5)", "-2*-3", "8/-2+6",
-            "(((1)))+(((2)))", "1+2<3", "(1<2)=(3<4)", "46340*1"};
+            "(((1)))+(((2)))", "1+2<3", "(1<2)=(3<4)", "46340*1", "2+(3=3)*5", "2+(3=4)*5",
+            "2+(1<2)*5", "2+(2<2)*5", "2+(2>1)*5", "2+(2>2)*5", "0+7", "7-0", "65536*65536+5", "3-(999*999*999*999*9<0)"};
         int[] due = {1, 12, 12, 2, 3, 2, 4, 1, 7, 2, 3, 8, 4, 2, 4, 6, 9, 5, 1, 1, 1, 1, 1, 2, 1, 1, 1, 3, 5, 4, 1, 4,
-            6, 2, 3, 1, 1, -1 - 3};
+            6, 2, 3, 1, 1, -1 - 3, 7, 2, 7, 2, 7, 2, 7, 7, -1 - 3, minus(3, 999 * 999 * 999 * 999 * 9)};
         for (int i = 0; i < good.length; i++) {
             Check.is("7 " + good[i], delay(good[i]), due[i]);
         }
@@ -236,11 +253,44 @@ public final class PromiseTest {
         NobodyBeenAft x = liar();
         Check.rule(x, "9");
         Check.is("7 refused", Check.rule(x, "9+"), -3);
+        Check.is("7 the text is read", x.count(12), 0);
         Check.is("7 the rule stays", x.delay(), 9);
         x.order(1);
         Check.is("7 an empty one", Check.rule(x, ""), 0);
         Check.is("7 none again", x.delay(), 3);
         Check.is("7 an order comes as it was given", x.way(0, 0), 9);
+    }
+
+    private static boolean among(int sign, String signs) {
+        return signs.indexOf(sign) >= 0;
+    }
+
+    /** Each of the 256 signs, where one of some kind is due: no other one can stand there. */
+    private static void signs() {
+        String digits = "0123456789";
+        for (int i = 0; i < 256; i++) {
+            NobodyBeenAft x = make();
+            char c = (char) i;
+            String what = " sign " + i + " ";
+            Check.is("7" + what, Check.rule(x, "" + c), among(i, digits + "lpxn") ? 0 : among(i, "-(") ? -2 : -1);
+            Check.is("7 behind" + what, Check.rule(x, "1" + c + "2"),
+                among(i, digits + "+-*/<>=") ? 0 : -2);
+            Check.is("7 in brackets" + what, Check.rule(x, "(1" + c + "+2)"),
+                among(i, digits) ? 0 : among(i, "+*/<>=)") ? (i == ')' ? -6 : -4) : i == '-' ? -4 : -3);
+            Check.is("18" + what, Check.voyage(x, "" + c), among(i, "<=>123456789") ? 1 : i == 'p' ? -2 : -1);
+            Check.is("18 behind p" + what, Check.voyage(x, "p" + c), among(i, digits) ? 0 : -2);
+            Check.is("4" + what, Check.ship(x, "" + c), among(i, "23456789") ? 0 : -1);
+            Check.is("4 behind" + what, Check.ship(x, "3" + c), among(i, digits) ? 0
+                : i == ',' ? -3 : -2);
+            Check.is("4 a cell" + what, Check.ship(x, "9," + c), among(i, "012345678") ? 1 : -3);
+            Check.is("4 a liar" + what, Check.ship(x, "39,1" + c), among(i, digits + "*") ? 1 : i == ',' ? -6 : -5);
+            Check.is("5" + what, Check.rocks(x, c + ",1"), among(i, "123456789") ? 1 : -1);
+            Check.is("5 a lane" + what, Check.rocks(make(), "1," + c), among(i, "012345678") ? 1 : -3);
+            Check.is("5 behind" + what, Check.rocks(make(), "1,1" + c), i == ';' ? -5 : -4);
+            Check.is("6" + what, Check.messes(make(), c + "*1"), among(i, digits) ? 1 : -1);
+            Check.is("6 eats" + what, Check.messes(make(), "1*" + c), among(i, digits) ? 1 : -3);
+            Check.is("6 behind" + what, Check.messes(make(), "1*1" + c), i == ';' ? -5 : -4);
+        }
     }
 
     private static void p8to10() {
@@ -253,6 +303,8 @@ public final class PromiseTest {
         Check.is("8 no LIAR", x.post(2, 1), 0);
         Check.is("9 MILE", x.rock(1, 0), 9);
         Check.is("9 LANE", x.rock(1, 1), 3);
+        Check.is("9 the first MILE", x.rock(0, 0), 7);
+        Check.is("9 the first LANE", x.rock(0, 1), 2);
         Check.is("10 FOOD", x.mess(0, 0), 2);
         Check.is("10 EATS", x.mess(1, 1), 9);
         Check.is("10 HUNGRY", x.mess(1, 2), 2);
@@ -358,6 +410,10 @@ public final class PromiseTest {
         Check.ship(y, "9,1*,3*");
         y.order(-1);
         Check.is("14 turned round twice", y.way(0, 1), -1);
+        Check.ship(y, "9,1*,3*,5*");
+        y.steps(1);
+        y.order(-1);
+        Check.is("14 turned round three times", y.way(1, 1), 1);
         NobodyBeenAft z = make();
         Check.rule(z, "12");
         z.order(1);
@@ -403,7 +459,7 @@ public final class PromiseTest {
         Check.is("15 all of it", x.pass(2, 80, 0), -3);
         Check.is("15 all that is there", x.pass(1, 19, 1), 22);
         int[][] wrong = {{0, 1, 0}, {2, 1, 1}, {-1, 1, 1}, {3, 1, 0}, {3, 1, 1}, {0, 0, 1}, {0, 100, 1}, {0, 1, 2},
-            {0, 1, -1}, {0, -5, 1}, {Integer.MAX_VALUE, 1, 1}, {-2, 1, 0}};
+            {0, 1, -1}, {1, 1, 2}, {1, 1, -1}, {0, -5, 1}, {Integer.MAX_VALUE, 1, 1}, {-2, 1, 0}};
         for (int[] a : wrong) {
             Check.is("15 " + a[0] + " " + a[1] + " " + a[2], x.pass(a[0], a[1], a[2]), NONE);
         }
@@ -505,6 +561,7 @@ public final class PromiseTest {
         }
         Check.is("18 nothing is done then", y.count(5), 1);
         Check.row("18 the row stays", y, 0, 0);
+        Check.is("18 the text is read", y.count(12), 0);
         Check.is("18 60 signs", Check.voyage(y, "9".repeat(60)), 60);
         Check.is("18 all of them", y.count(5), 541);
         Check.is("18 61 signs", Check.voyage(y, "9".repeat(61)), -1 - 60);
@@ -513,6 +570,11 @@ public final class PromiseTest {
         Check.is("18 a fault at 59", Check.voyage(y, "9".repeat(59) + "00"), -1 - 59);
         Check.is("18 too early at 60", Check.voyage(y, "9".repeat(59) + "p"), -1 - 60);
         Check.is("18 nothing was done", y.count(5), 541);
+        NobodyBeenAft digits = make();
+        Check.messes(digits, "9*0;9*0;9*0");
+        Check.is("18 one digit behind p", Check.voyage(digits, "p01"), 2);
+        Check.is("18 the first passes", digits.mess(0, 0), 8);
+        Check.is("18 one step", digits.count(5), 1);
         NobodyBeenAft z = liar();
         Check.voyage(z, "<");
         Check.is("18 a liar turns it round", z.way(0, 1), 1);
@@ -571,11 +633,40 @@ public final class PromiseTest {
         Check.is("19 a refused again forgets nothing", x.count(10), 1);
         x.again(0);
         Check.is("19 again does", x.count(10), 0);
+        under();
         x.sheet(2, 1, 5, 0);
         x.steps(1);
         x.sheet(2, 1, 7, 0);
         x.undo();
         Check.is("19 what they eat stays", x.mess(0, 1), 7);
+    }
+
+    private static void under() {
+        NobodyBeenAft x = make();
+        Check.rule(x, "5");
+        x.order(-1);
+        x.steps(1);
+        Check.rule(x, "7");
+        x.order(1);
+        x.keep(1);
+        x.steps(4);
+        Check.is("19 one is done", x.count(8), 1);
+        Check.is("19 the other is next", x.way(0, 0), 3);
+        Check.is("19 it is 1", x.way(0, 1), 1);
+        x.steps(3);
+        x.undo();
+        Check.is("19 one under way again", x.way(0, 0), 3);
+        x.undo();
+        for (int i = 0; i < 2; i++) {
+            Check.is("19 both under way again", x.count(8), 2);
+            Check.is("19 when the first is due", x.way(0, 0), 4);
+            Check.is("19 what the first is", x.way(0, 1), -1);
+            Check.is("19 when the second is due", x.way(1, 0), 7);
+            Check.is("19 what the second is", x.way(1, 1), 1);
+            Check.is("19 one was given", x.order(0), -2);
+            x.steps(7);
+            x.again(1);
+        }
     }
 
     // ---- where she will be
@@ -616,6 +707,14 @@ public final class PromiseTest {
         x.order(1);
         Check.is("21 none", x.strikes(), -2);
         Check.row("21 the row stays", x, 4);
+        NobodyBeenAft near = at(2);
+        Check.rocks(near, "3,4;2,4;4,4");
+        Check.is("20 the next step", near.lane(1), 4);
+        Check.row("20 not the one at now", near, 1);
+        near.lane(2);
+        Check.row("20 the step behind it", near, 2);
+        Check.is("21 the next step", near.strikes(), 1);
+        Check.row("21 the next step", near, 0);
         NobodyBeenAft y = make();
         Check.rocks(y, "999,4");
         Check.is("21 999", y.strikes(), 999);
@@ -679,6 +778,15 @@ public final class PromiseTest {
         Check.rocks(liar, "4,4;4,5");
         Check.is("23 a liar", liar.plan(4), 1);
         Check.row("23 as they are given", liar, 0, 1, 0, 0);
+        NobodyBeenAft three = make();
+        Check.ship(three, "9,1*,3*,5*");
+        Check.rule(three, "1");
+        Check.rocks(three, "1,4;1,5");
+        Check.is("23 three liars", three.plan(1), 1);
+        Check.row("23 three liars", three, 1);
+        three.steps(1);
+        Check.is("23 another look", three.plan(1), 0);
+        Check.is("25 another look", three.lanes(1), 0b111000);
         NobodyBeenAft under = make();
         Check.rule(under, "2");
         under.order(1);
@@ -689,7 +797,11 @@ public final class PromiseTest {
         Check.is("23 only one of the two", under.plan(2), 1);
         NobodyBeenAft far = make();
         Check.rule(far, "12");
-        Check.rocks(far, "30,4;29,3;29,5;29,4");
+        Check.rocks(far, "30,4");
+        Check.is("25 30 steps", far.lanes(30), 511 - 16);
+        Check.is("23 the last step", far.plan(30), 1);
+        Check.is("24 the last step", far.latest(30), 18);
+        Check.rocks(far, "29,3;29,5;29,4");
         Check.is("23 30 steps", far.plan(30), 2);
         Check.is("23 the last is given", far.row(0), -1);
         Check.is("23 the next is given", far.row(1), -1);
@@ -703,8 +815,58 @@ public final class PromiseTest {
         Check.row("23 at the edge", edge, -1, -1, 0, 0);
     }
 
-    private static void p24() {
+    /** In LANE 0 (aft by -1) or 8, with one order under way that pushes on. */
+    private static NobodyBeenAft edge(int v) {
         NobodyBeenAft x = make();
+        for (int i = 0; i < 4; i++) {
+            x.order(v);
+            x.steps(1);
+        }
+        Check.rule(x, "2");
+        x.order(v);
+        x.steps(1);
+        return x;
+    }
+
+    private static void edges() {
+        NobodyBeenAft x = edge(-1);
+        Check.is("25 she stays at 0", x.lanes(1), 1);
+        Check.is("25 from 0", x.lanes(3), 0b111);
+        Check.rocks(x, "7,0");
+        Check.is("23 away from 0", x.plan(2), 1);
+        Check.row("23 away from 0", x, 1, 0);
+        Check.rocks(x, "8,1");
+        Check.is("23 back to 0", x.plan(3), 2);
+        Check.row("23 back to 0", x, 1, -1, 0);
+        Check.is("22 all can be cleared", x.clears(), 3);
+        NobodyBeenAft y = edge(1);
+        Check.is("25 she stays at 8", y.lanes(1), 256);
+        Check.is("25 from 8", y.lanes(3), 0b111000000);
+        Check.rocks(y, "7,8");
+        Check.is("23 away from 8", y.plan(2), 1);
+        Check.row("23 away from 8", y, -1, 0);
+        Check.rocks(y, "8,7");
+        Check.is("23 back to 8", y.plan(3), 2);
+        Check.row("23 the least row goes on", y, -1, -1, 0);
+        Check.rocks(y, "8,6");
+        Check.is("23 only 8 is left", y.plan(3), 2);
+        Check.row("23 only 8 is left", y, -1, 1, 0);
+        NobodyBeenAft z = make();
+        Check.rule(z, "6");
+        z.order(1);
+        z.steps(1);
+        Check.rule(z, "5-n");
+        z.order(1);
+        z.steps(1);
+        Check.rocks(z, "8,6;8,5");
+        Check.is("23 two under way, the later given first due", z.plan(6), 1);
+        Check.row("23 two under way", z, 0, 0, 0, 0, 0, 1);
+    }
+
+    private static void p24() {
+        edges();
+        NobodyBeenAft x = make();
+        Check.is("24 one", x.latest(1), 0);
         Check.is("24 0", x.latest(0), NONE);
         Check.is("24 31", x.latest(31), NONE);
         Check.is("24 nothing in the way", x.latest(30), 29);
@@ -755,6 +917,7 @@ public final class PromiseTest {
         NobodyBeenAft x = make();
         Check.is("26 0", x.safest(0), NONE);
         Check.is("26 1000", x.safest(1000), NONE);
+        Check.is("26 one", x.safest(1), 4);
         Check.is("26 hers", x.safest(999), 4);
         Check.row("26 hers", x, 0, 0);
         Check.rocks(x, "1,4;9,4;9,3;7,5");
@@ -770,6 +933,10 @@ public final class PromiseTest {
         Check.rocks(x, "9,8");
         Check.is("26 the fewest", x.safest(999), 4);
         Check.row("26 the fewest", x, 1, 1);
+        NobodyBeenAft bow = make();
+        Check.rocks(bow, "1,1;1,2;1,3;1,4;1,5;1,6;1,7;1,8");
+        Check.is("26 lane 0", bow.safest(1), 0);
+        Check.row("26 lane 0", bow, 0, 1);
     }
 
     private static void p27to28() {
@@ -896,6 +1063,14 @@ public final class PromiseTest {
         }
         Check.is("33 4", x.lives(4), NONE);
         Check.is("33 -1", x.lives(-1), NONE);
+        NobodyBeenAft cut = make();
+        Check.messes(cut, "5*3;9*0");
+        Check.is("33 it is cut", cut.lives(0), 1);
+        Check.is("33 nothing comes forward", cut.lives(1), 1);
+        Check.is("33 it comes forward", cut.lives(2), 4);
+        Check.is("34 99", cut.shares(99), -2);
+        cut.sheet(3, 0, 0, 0);
+        Check.is("34 99 of nothing", cut.shares(99), 0);
         NobodyBeenAft same = make();
         Check.messes(same, "0*0;8*4;9*4;4*2");
         int[] first = {1, 1, 0, 0};
@@ -933,6 +1108,10 @@ public final class PromiseTest {
         Check.messes(z, "99*0;99*0;0*9");
         Check.is("34 more than 99 in one", z.shares(22), 99 * 3);
         Check.row("34 more than 99 in one", z, 99, 198);
+        NobodyBeenAft four = make();
+        Check.messes(four, "4*1;0*2;9*1;0*1");
+        Check.is("34 four", four.shares(2), 6);
+        Check.row("34 four", four, 0, -4, 2);
         NobodyBeenAft one = make();
         Check.messes(one, "5*1");
         Check.is("34 one alone", one.shares(5), 0);
@@ -1004,6 +1183,15 @@ public final class PromiseTest {
         Check.is("39 all lanes", x.unsure(), 4);
         Check.row("39 all lanes", x, 511);
         x.forget();
+        x.seen(2, 5);
+        Check.is("39 by itself", x.unsure(), 1);
+        Check.row("39 by itself", x, 0b110000);
+        x.forget();
+        Check.is("36 lane 8", x.seen(4, 8), 1);
+        Check.is("38 lane 8", x.ordered(), 1);
+        Check.row("38 lane 8", x, 1, 1, 1, 1);
+        Check.is("39 lane 8", x.unsure(), 0);
+        x.forget();
         x.seen(5, 0);
         Check.is("38 at the edge", x.ordered(), 6);
         Check.row("38 at the edge", x, -1, -1, -1, -1, -1);
@@ -1033,6 +1221,8 @@ public final class PromiseTest {
             Check.is("40 " + i, x.boy(i, 3), cells[i]);
             Check.row("40 " + i, x, to[i]);
         }
+        Check.is("40 every other", x.boy(5, 2), 3);
+        Check.row("40 every other", x, -1);
         Check.is("40 far", x.boy(99999, 9), 2);
         Check.row("40 far", x, -1);
         Check.is("40 n", x.boy(100000, 9), NONE);
@@ -1076,6 +1266,8 @@ public final class PromiseTest {
         Check.row("43 the second has more by it", x, 0, 1);
         Check.is("43 half is cut", x.mutiny(1, 1, 1), 3);
         Check.row("43 half is cut", x, 0, 0);
+        Check.is("43 the most that can be held", x.mutiny(20, 20, 18), 82);
+        Check.row("43 the most that can be held", x, 0, 0);
         int[][] wrong = {{0, 1, 1}, {1, 0, 1}, {21, 1, 1}, {1, 21, 1}, {1, 1, 0}, {1, 1, 19}};
         for (int[] a : wrong) {
             Check.is("43 " + a[0] + " " + a[1] + " " + a[2], x.mutiny(a[0], a[1], a[2]), NONE);
@@ -1177,6 +1369,7 @@ public final class PromiseTest {
         Check.is("47 no messes came", x.again(2), true);
         Check.messes(x, "1*1");
         Check.is("47 messes came since", x.again(2), false);
+        Check.is("47 messes came since that one, too", x.again(0), false);
         Check.is("46 once more", x.keep(2), true);
         Check.is("47 once more", x.again(2), true);
     }
