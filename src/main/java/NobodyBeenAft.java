@@ -981,10 +981,10 @@ public final class NobodyBeenAft {
     }
 
     /**
-     * What goes from MESS i to the next one is left[i + 1] less what is left to the first i + 1 of
-     * them in the end: that must not be below 0, not be less farther aft, not be more than is left
-     * in all. Each sum that is bent only where it meets some left[c], so that these alone must be
-     * looked at. passing[i][c]: the least to be passed from MESS i on, if left[c] is left there.
+     * What goes from MESS i to the next one is left[i + 1] less what the first i + 1 of them keep
+     * beyond what they EAT. What they keep is 0 or more, is never less for one MESS more, and is no
+     * more than is left in all. The sum of what is passed bends only where it is some left[c]: so
+     * these alone are tried. passing[i][c]: the least passed from MESS i on, if left[c] is kept.
      */
     private void weighPassing() {
         for (int i = messCount - 2; i >= 0; i--) {

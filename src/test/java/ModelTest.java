@@ -25,7 +25,7 @@ public final class ModelTest {
     }
 
     public static void main(String[] args) {
-        int runs = args.length > 0 ? Integer.parseInt(args[0]) : 600;
+        int runs = args.length > 0 ? Integer.parseInt(args[0]) : 1500;
         int from = args.length > 1 ? Integer.parseInt(args[1]) : 0;
         int wrong = 0;
         long looked = 0;

@@ -722,7 +722,39 @@ public final class PromiseTest {
         Check.row("20 beyond 60", y, 0);
     }
 
+    /** As many ROCKS, POSTS and MESSES as there may be. */
+    private static void fullShip() {
+        NobodyBeenAft x = make();
+        Check.ship(x, "40,10*,11*,12*,13*,14*,15*,16*,17*,18*,19*");
+        Check.rule(x, "1");
+        Check.rocks(x, "2,4;".repeat(15) + "2,3");
+        Check.messes(x, "10*1;10*1;10*1;10*1;10*1;10*1;10*1;26*1");
+        Check.is("20 full", x.lane(60), 4);
+        Check.row("20 full", x, 15);
+        Check.is("21 full", x.strikes(), 2);
+        Check.is("22 full", x.clears(), 0xffff);
+        Check.is("23 full", x.plan(2), 1);
+        Check.row("23 full", x, 0, 1);
+        Check.is("26 full", x.safest(2), 5);
+        Check.row("26 full", x, 0, 15);
+        x.comes(12);
+        Check.row("28 full", x, 10, 0);
+        Check.is("33 full", x.lives(0), 10);
+        Check.is("33 full aft", x.lives(1), 10);
+        Check.is("33 full forward", x.lives(2), 12);
+        Check.is("33 full both", x.lives(3), 12);
+        Check.is("34 full", x.shares(12), 56);
+        Check.row("34 full", x, -2, -4, -6, -8, -10, -12, -14);
+        Check.is("35 full", x.fast(13), 1);
+        Check.row("35 full", x, 1, 5);
+        Check.is("35 full, all", x.fast(99), 255);
+        Check.is("12 full", x.sheet(2, 8, 9, 0), 72);
+        Check.is("17 full", x.steps(3), 4);
+        Check.row("17 full", x, 15, 15);
+    }
+
     private static void p22() {
+        fullShip();
         NobodyBeenAft x = make();
         Check.rule(x, "3");
         Check.is("22 none", x.clears(), 0);
@@ -851,6 +883,14 @@ public final class PromiseTest {
         Check.rocks(y, "8,6");
         Check.is("23 only 8 is left", y.plan(3), 2);
         Check.row("23 only 8 is left", y, -1, 1, 0);
+        NobodyBeenAft there = make();
+        for (int i = 0; i < 3; i++) {
+            there.order(1);
+            there.steps(1);
+        }
+        Check.rocks(there, "4,7;4,6;5,8");
+        Check.is("23 to 8 and back", there.plan(2), 2);
+        Check.row("23 to 8 and back", there, 1, -1);
         NobodyBeenAft z = make();
         Check.rule(z, "6");
         z.order(1);
@@ -1302,6 +1342,11 @@ public final class PromiseTest {
     private static void p45() {
         Check.is("45 0", make().voyages(1, 0), NONE);
         Check.is("45 61", make().voyages(1, 61), NONE);
+        NobodyBeenAft one = make();
+        Check.rocks(one, "1,4;2,4;2,5;2,3");
+        one.steps(1);
+        Check.is("45 one step", one.voyages(1, 1), 1);
+        Check.is("45 one step of it", one.count(5), 1);
         for (int seed : new int[] {0, 1, -1, 77, 4711, Integer.MIN_VALUE, Integer.MAX_VALUE}) {
             NobodyBeenAft x = liar();
             NobodyBeenAft y = liar();
