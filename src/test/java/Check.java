@@ -4,9 +4,16 @@ import java.util.NoSuchElementException;
 final class Check {
     private static int wrong = 0;
     private static int looked = 0;
+    private static int sentences = 0;
+    /** What stands ahead of each thing that is told: the sentence that is tested. */
+    private static String of = "";
 
     interface Call {
         long answer();
+    }
+
+    interface CallOn {
+        long answer(NobodyBeenAft x);
     }
 
     private Check() {
@@ -17,7 +24,7 @@ final class Check {
         if (got != due) {
             wrong++;
             if (wrong <= 50) {
-                System.out.println(what + ": " + got + ", due is " + due);
+                System.out.println(of + what + ": " + got + ", due is " + due);
             }
         }
     }
@@ -37,7 +44,78 @@ final class Check {
             got = "threw " + e;
         }
         wrong++;
-        System.out.println(what + ": " + got + ", due is a NoSuchElementException");
+        System.out.println(of + what + ": " + got + ", due is a NoSuchElementException");
+    }
+
+    /** The test of one sentence of the document; one that looks at nothing is wrong by itself. */
+    static void sentence(String promise, String words, Runnable test) {
+        of = promise + " '" + words + "': ";
+        sentences++;
+        int before = looked;
+        try {
+            test.run();
+        } catch (RuntimeException e) {
+            wrong++;
+            System.out.println(of + "threw " + e);
+        }
+        if (looked == before) {
+            wrong++;
+            System.out.println(of + "nothing is looked at");
+        }
+        of = "";
+    }
+
+    /** The call answers what is due, and what can be seen of the object stays. */
+    static void stays(String what, NobodyBeenAft x, CallOn call, long due) {
+        String before = seen(x) + " " + x.count(12) + " signs";
+        is(what, call.answer(x), due);
+        same(what, seen(x) + " " + x.count(12) + " signs", before);
+    }
+
+    /** As stays(), by a call that reads the text. */
+    static void staysButText(String what, NobodyBeenAft x, String text, CallOn call, long due) {
+        say(x, text);
+        String before = seen(x);
+        is(what, call.answer(x), due);
+        same(what, seen(x), before);
+        is(what + " empties THE TEXT", x.count(12), 0);
+    }
+
+    private static void same(String what, String got, String due) {
+        looked++;
+        if (!got.equals(due)) {
+            wrong++;
+            System.out.println(of + what + ": changed\n  " + due + " to\n  " + got);
+        }
+    }
+
+    /** All that can be seen of an object but THE TEXT. */
+    private static String seen(NobodyBeenAft x) {
+        StringBuilder all = new StringBuilder("counts");
+        for (int i = 0; i < 12; i++) {
+            all.append(' ').append(x.count(i));
+        }
+        all.append(", delay ").append(x.delay()).append(", row");
+        for (int i = 0; i < x.count(11); i++) {
+            all.append(' ').append(x.row(i));
+        }
+        all.append(", posts");
+        for (int i = 0; i < x.count(1); i++) {
+            all.append(' ').append(x.post(i, 0)).append('*').append(x.post(i, 1));
+        }
+        all.append(", rocks");
+        for (int i = 0; i < x.count(3); i++) {
+            all.append(' ').append(x.rock(i, 0)).append(',').append(x.rock(i, 1));
+        }
+        all.append(", messes");
+        for (int i = 0; i < x.count(4); i++) {
+            all.append(' ').append(x.mess(i, 0)).append('*').append(x.mess(i, 1)).append(' ').append(x.mess(i, 2));
+        }
+        all.append(", orders");
+        for (int i = 0; i < x.count(8); i++) {
+            all.append(' ').append(x.way(i, 0)).append(':').append(x.way(i, 1));
+        }
+        return all.toString();
     }
 
     static void row(String what, NobodyBeenAft x, long... due) {
@@ -93,7 +171,8 @@ final class Check {
     }
 
     static void close(String name) {
-        System.out.println(name + ": " + looked + " answers looked at, " + wrong + " wrong");
+        String of = sentences == 0 ? "" : " for " + sentences + " sentences";
+        System.out.println(name + ": " + looked + " answers looked at" + of + ", " + wrong + " wrong");
         if (wrong != 0 || looked == 0) {
             System.exit(1);
         }
