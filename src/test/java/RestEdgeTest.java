@@ -234,6 +234,25 @@ public final class RestEdgeTest {
             Check.is("6, one from forward", x.shares(3), 6);
             Check.row("6, one from forward", x, 1, -5);
         });
+        Check.sentence("34", "The least FOOD that must be passed (either way)", () -> {
+            NobodyBeenAft x = withMesses("0*1;3*1;0*1;0*1;9*1");
+            Check.is("three lack 2", x.shares(2), 2 + 1 + 3 + 5);
+            Check.row("three lack 2", x, -2, -1, -3, -5);
+            NobodyBeenAft y = withMesses("9*0;0*3;0*3;9*0;0*3;9*0");
+            Check.is("from both sides", y.shares(3), 9 + 9 + 9);
+            Check.row("from both sides", y, 9, 0, -9, 0, -9);
+            NobodyBeenAft z = withMesses("4*1;0*2;9*1;0*1");
+            Check.is("what is left stays", z.shares(2), 6);
+            Check.row("what is left stays", z, 0, -4, 2);
+        });
+        Check.sentence("34", "The least FOOD: what is nearest is not kept, if that is more in all", () -> {
+            NobodyBeenAft x = withMesses("5*0;0*5;0*0;9*0");
+            Check.is("one passes 5", x.shares(1), 5);
+            Check.row("one passes 5", x, 5, 0, 0);
+            NobodyBeenAft y = withMesses("9*0;5*0;0*5;0*0;0*0;9*0");
+            Check.is("the second of six does", y.shares(1), 5);
+            Check.row("the second of six does", y, 0, 5, 0, 0, 0);
+        });
         Check.sentence("34", "the ROW: for each MESS but the last", () -> {
             NobodyBeenAft x = withMesses("9*9");
             x.relay(0);
@@ -278,6 +297,10 @@ public final class RestEdgeTest {
             NobodyBeenAft x = withMesses("9*1;9*9;9*2;9*9");
             Check.is("one: the second, not the last", x.fast(3), 2);
             Check.row("one", x, 1, 0);
+            NobodyBeenAft last = withMesses("0*0;0*1");
+            Check.is("all but the bow", last.fast(1), 2);
+            NobodyBeenAft bow = withMesses("0*1;0*0");
+            Check.is("the bow alone", bow.fast(1), 1);
             Check.is("two: not one that is less", x.fast(10), 0b1010);
             Check.row("two", x, 2, 6);
         });

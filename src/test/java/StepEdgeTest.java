@@ -606,6 +606,44 @@ public final class StepEdgeTest {
             y.steps(2);
             Check.is("ROCKS that are behind", y.plan(4), 0);
         });
+        Check.sentence("23", "besides those under way: amid the sea", () -> {
+            for (int v = -1; v <= 1; v++) {
+                NobodyBeenAft x = underWay(v);
+                int there = 4 + v;
+                Check.rocks(x, "4," + (there == 4 ? 5 : 4));
+                Check.is("clear by " + v, x.plan(1), 0);
+                Check.rocks(x, "4," + there);
+                Check.is("hit by " + v, x.plan(1), -2);
+                NobodyBeenAft y = underWay(v);
+                Check.rocks(y, "5," + there + ";5," + (there - 1));
+                Check.is("one besides " + v, y.plan(3), 1);
+                Check.row("one besides " + v, y, 1, 0, 0);
+                Check.is("the last besides " + v, y.latest(3), 0);
+            }
+        });
+        Check.sentence("23", "besides those under way: near LANES 0 and 8", () -> {
+            int[][] due = {{0, 1}, {1, 1}, {1, -1}, {2, -1}, {6, 1}, {7, 1}, {7, -1}, {8, -1}};
+            for (int[] a : due) {
+                int there = a[0] + a[1];
+                NobodyBeenAft x = inLane(a[0]);
+                x.order(a[1]);
+                x.steps(1);
+                Check.is("from " + a[0] + " by " + a[1], x.plan(1), 0);
+                Check.is("LANES from " + a[0] + " by " + a[1], x.lanes(1), 1 << there);
+                Check.rocks(x, "12," + there);
+                Check.is("a ROCK from " + a[0] + " by " + a[1], x.plan(1), -2);
+                Check.is("no LANE from " + a[0] + " by " + a[1], x.lanes(1), 0);
+                Check.is("not cleared from " + a[0] + " by " + a[1], x.clears(), 0);
+            }
+        });
+        Check.sentence("23", "The fewest orders that are -1 or 1", () -> {
+            NobodyBeenAft x = withRocks("2,4;2,3;2,5;3,6;3,7");
+            Check.is("two aft", x.plan(3), 2);
+            Check.row("two aft", x, -1, -1, 0);
+            Check.rocks(x, "1,3;4,5;4,6;4,7");
+            Check.is("four", x.plan(4), 4);
+            Check.row("four", x, 1, 1, -1, -1);
+        });
         Check.sentence("23", "of as few the least row", () -> {
             NobodyBeenAft x = withRocks("3,4");
             Check.is("one", x.plan(3), 1);
@@ -630,6 +668,27 @@ public final class StepEdgeTest {
         });
         Check.sentence("23", "NONE: another n", () ->
             others(x -> x.plan(0), x -> x.plan(31), x -> x.plan(-1), x -> x.plan(MOST), x -> x.plan(LEAST)));
+    }
+
+    /** In LANE 4 at NOW 3, with an order on under way for STEP 4, and a DELAY of 2. */
+    private static NobodyBeenAft underWay(int v) {
+        NobodyBeenAft x = withRule("2");
+        x.steps(2);
+        x.order(v);
+        x.steps(1);
+        return x;
+    }
+
+    /** In a LANE at NOW 10, with a DELAY of 2. */
+    private static NobodyBeenAft inLane(int lane) {
+        NobodyBeenAft x = make();
+        for (int i = 4; i != lane; i += lane < 4 ? -1 : 1) {
+            x.order(lane < 4 ? -1 : 1);
+            x.steps(1);
+        }
+        x.steps(10 - x.count(5));
+        Check.rule(x, "2");
+        return x;
     }
 
     /** In LANE 0 (by -1) or 8 at NOW 5, with an order on under way for STEP 6, given ahead of NOW. */
@@ -706,6 +765,16 @@ public final class StepEdgeTest {
             NobodyBeenAft y = edge(1);
             Check.is("8 in one STEP", y.lanes(1), 0b110000000);
             Check.is("8 in two STEPS", y.lanes(2), 0b111000000);
+        });
+        Check.sentence("25", "besides those under way: amid the sea", () -> {
+            for (int v = -1; v <= 1; v++) {
+                NobodyBeenAft x = underWay(v);
+                Check.is("in one STEP by " + v, x.lanes(1), 1 << 4 + v);
+                Check.row("in one STEP by " + v, x, 1);
+                Check.is("in two STEPS by " + v, x.lanes(2), 7 << 3 + v);
+                Check.rocks(x, "4,4");
+                Check.is("a ROCK by " + v, x.lanes(2), v == 0 ? 0 : 7 << 3 + v);
+            }
         });
         Check.sentence("25", "(as clears(): not at NOW, if one was given)", () -> {
             NobodyBeenAft x = make();

@@ -363,6 +363,24 @@ public final class TextEdgeTest {
             Check.is("a fault at 39", delay(sum + "z1"), -1 - 39);
             Check.is("80 signs", delay(sum + "+" + sum + "1"), -1 - 40);
         });
+        Check.sentence("7", "THE RULE is the one that was told last, whatever was refused ahead of it", () -> {
+            NobodyBeenAft x = liar();
+            x.steps(3);
+            String[] rules = {"4+0", "((((1+", "((((2))))+3", "1<2<3", "6-(1<2)", "-", "0*7+9", "(1<2=3", "1<2", "8"};
+            int[] due = {4, 0, 5, 0, 5, 0, 9, 0, 1, 8};
+            for (int i = 0; i < rules.length; i++) {
+                Check.is(rules[i] + " is refused", Check.rule(x, rules[i]) < 0, due[i] == 0);
+                Check.is("behind " + rules[i], x.delay(), due[i] == 0 ? due[i - 1] : due[i]);
+            }
+        });
+        Check.sentence("7", "THE RULE is the one that was told last: long ones, too", () -> {
+            NobodyBeenAft x = liar();
+            for (int i = 0; i < 5; i++) {
+                String rule = "1" + "+0".repeat(18) + "+" + i;
+                Check.is(rule, Check.rule(x, rule), 0);
+                Check.is("DELAY by " + rule, x.delay(), 1 + i);
+            }
+        });
         Check.sentence("7", "refused: THE RULE stays", () -> {
             NobodyBeenAft x = busy();
             Check.rule(x, "n+4");
