@@ -30,6 +30,7 @@ public final class NobodyBeenAft {
     private static final int HORIZON = 30;
     private static final int FREE = 2;
     private static final int TOO_MANY = 1000;
+    private static final int TOO_MUCH = 1000000;
     private static final int MAX_UNDO = 15;
     private static final int KEPT = 3;
     private static final int MAX_SEEN = 12;
@@ -417,7 +418,8 @@ public final class NobodyBeenAft {
             return NONE;
         }
         int stern = ship.length - 1;
-        int cell = Math.min(stern, stern * n / delayAt(state.now));
+        int late = delayAt(state.now);
+        int cell = n >= late ? stern : stern * n / late;
         int by = 0;
         int liars = 0;
         for (int i = 0; i < ship.posts && ship.cells[i] <= cell; i++) {
@@ -598,8 +600,7 @@ public final class NobodyBeenAft {
             return NONE;
         }
         int walked = n - n / r;
-        int stern = ship.length - 1;
-        told.tellOne(walked % (2 * stern) < stern ? 1 : -1);
+        told.tellOne(walked % lap() < ship.length - 1 ? 1 : -1);
         return cellAfter(walked);
     }
 
@@ -998,7 +999,7 @@ public final class NobodyBeenAft {
     }
 
     private int leastPassing(int mess, int atLeast) {
-        int least = Integer.MAX_VALUE / 2;
+        int least = TOO_MUCH;
         for (int c = 0; c <= messCount; c++) {
             if (left[c] >= atLeast && left[c] <= left[messCount]) {
                 least = Math.min(least, passing[mess][c]);
@@ -1030,11 +1031,15 @@ public final class NobodyBeenAft {
 
     // ---- what the calls share: boys and mutinies
 
+    /** CELLS from the bow to the stern and back; it divides, so it is never 0. */
+    private int lap() {
+        return 2 * Math.max(1, ship.length - 1);
+    }
+
     /** Where one is who has walked so many CELLS from the bow, to and fro. */
     private int cellAfter(int walked) {
-        int stern = ship.length - 1;
-        int rest = walked % (2 * stern);
-        return rest <= stern ? rest : 2 * stern - rest;
+        int rest = walked % lap();
+        return rest < ship.length ? rest : lap() - rest;
     }
 
     private static int holdsThen(int holds, int bid, int other, int v) {
